@@ -196,7 +196,7 @@ public final class DecimalRun {
             fuel = fuelOfRun;
         }
 
-        /** Ends the run with this fault: never comes back. */
+        /** Ends the run with this fault. It never comes back: what it throws goes on to run's caller. */
         void raise(int number) {
             fault = number;
             if (number == FAULTY_TEXT) {
@@ -853,14 +853,12 @@ public final class DecimalRun {
                 case GIVE_BACK -> giveBack();
                 case JUMP -> place = (int) operand;
                 case JUMP_UNLESS -> place = pop() == 0 ? (int) operand : place;
-                default -> operate(operation);
+                default -> {
+                    long right = pop();
+                    long left = pop();
+                    push(arithmetic.operate(operation, left, right));
+                }
             }
-        }
-
-        private void operate(int operator) {
-            long right = pop();
-            long left = pop();
-            push(arithmetic.operate(operator, left, right));
         }
 
         private void call(int name) {

@@ -20,6 +20,7 @@ public final class LanguageTest {
         faultOrder();
         faultsLeaveThingsAsTheyAre();
         outputLimit();
+        fullTexts();
         CHECK.end();
     }
 
@@ -68,7 +69,8 @@ public final class LanguageTest {
         gives("define f(x){return1};f(0)", "1");
         faulty("1234567890", "123456789.1", "12345678.12", "12345.67891", "1.23456", "1.", ".5", "1..2",
             "1.2.3", "1 .5", "1. 5", "1 2");
-        faulty("ab", "iff", "define2", "scales", "ifx", "retur", "whil", "A", "a1", "1a", "aa=1", "If");
+        faulty("ab", "iff", "define2", "scales", "ifx", "retur", "whil", "A", "a1", "1a", "aa=1", "If",
+            "xf(1<2)3", "xhile(1>2)3", "xefine f(x){}", "xcale", "scalx=1", "define f(x){xeturn 1}");
         faulty("!", "1!2", "&", "\t", "1\r", "_", "\"", "#", "\u00ff", "\u0080", "[1]", "1,2", "$", "~",
             "`", "@", "|", ":", "?", "'", "\\", "\u0001", "\u001f", "\u007f", "\u00a0");
         faulty("if(1< =2)3", "if(1! =2)3", "if(1<>2)3", "if(1=<2)3", "if(1===1)3", "if(1<==1)3");
@@ -183,6 +185,7 @@ public final class LanguageTest {
     private static void powers() {
         gives("2^10;0^0;5^0;1.5^0;1.5^1;1.5^2;1.5^3;10^8;1^99;0^99;-1^99", "1024 1 1 1 1.5 2.2 3.3 100000000 1 0 -1");
         gives("scale=4;1.5^2;1.5^3;1.5^4;1.1^5", "2.25 3.375 5.0625 1.6105");
+        gives("scale=2;5^0;1.5^0;5^1;0.5^1", "1 1 5 0.5");
         gives("2^3.00;2^-1;2^-1.0;(-2)^3;1^-99", "8 0 0 -8 1");
         gives("scale=3;2^-1;2^-3;0.5^-2;(-3)^-1;10^-3", "0.500 0.125 4.000 -0.333 0.001");
         gives("0.5^-1;scale=2;0.1^-2;1.5^-1", "2 100.00 0.66");
@@ -206,6 +209,8 @@ public final class LanguageTest {
         gives("if(2==2.0)1;if(2!=2.0)2;if(2<=2.00)3;if(2>=2.0000)4;if(2<2.0)5;if(2>2.0)6", "1 3 4");
         gives("if(-1<0.0001)1;if(0.1>0.0999)2;if(0.3333!=0.333)3;if(-0.1<-0.01)4;if(-0==0)5", "1 2 3 4 5");
         gives("if(999999999>99999.9999)1;if(-999999999<-99999.9999)2;if(1<2)3;if(2<1)4;if(1>2)5", "1 2 3");
+        gives("if(2<=1)1;if(1<=2)2;if(1<=1)3;if(1>=2)4;if(2>=1)5;if(1>=1)6;if(1==2)7;if(2==1)8;if(1!=1)9", "2 3 5 6");
+        gives("if(1<1)1;if(1>1)2;if(2>1)3;if(1!=2)4;if(2!=1)5;if(1<1.0001)6;if(1>0.9999)7", "3 4 5 6 7");
         gives("x=3;while(x>0){x;x=x-1};while(x>0)9", "3 2 1");
         fails("if(1/0<1)2", 2, "");
         fails("if(1/0<f(1))2", 2, "");
@@ -346,5 +351,19 @@ public final class LanguageTest {
         CHECK.same("then fault 8", session.run.fault(), 8);
         session.go("while(0<1)1/0*7", 2000);
         CHECK.same("the value's fault comes first", session.run.fault(), 2);
+    }
+
+    private static void fullTexts() {
+        gives("x;".repeat(100), "0 ".repeat(100).trim());
+        gives("0" + "+1".repeat(99), "99");
+        gives("1" + "*-1".repeat(66), "1");
+        gives("{}\n".repeat(66), "");
+        gives("define f(x){if(x<1)return 1;return 1+2*(1+2*(1+2*(1+2*f(x-1))))};f(3)", "8191");
+        gives("define f(x){if(x<1)return 1;if(0<1+1*1^(1+1*f(x-1)))return x+2*f(x-1)*2^1^f(x-1)};f(3)", "91");
+        gives("define f(x){};while(x<9)x=x+1+f(1)+f(2)+f(3)+f(f(f(4)))-f(5)*f(6);x", "9");
+        Session session = new Session();
+        session.go("define f(x){};while(0==" + "f(1)+".repeat(34) + "0){}", 2000);
+        CHECK.same("the most work ends by its fuel", session.run.steps(), 2000);
+        CHECK.same("the most work's fault", session.run.fault(), 4);
     }
 }
