@@ -1,7 +1,5 @@
 /** What a text means: tokens, grammar, depth, values, steps and the faults (promise 6). */
-public final class LanguageTest {
-    private static final Check CHECK = new Check();
-
+public final class LanguageTest extends Cases {
     public static void main(String[] args) {
         tokens();
         grammar();
@@ -22,45 +20,6 @@ public final class LanguageTest {
         outputLimit();
         fullTexts();
         CHECK.end();
-    }
-
-    /** A new object runs the text without a fault and writes these lines, parted by blanks. */
-    private static void gives(String text, String lines) {
-        Session session = new Session();
-        CHECK.isTrue("fed: " + text, session.feed(text));
-        String answer = session.go(Session.PLENTY);
-        CHECK.same(text + " -> fault", session.run.fault(), 0);
-        CHECK.same(text + " -> answer", answer, String.valueOf(session.run.steps()));
-        CHECK.same(text + " -> output", session.out(), linesOf(lines));
-    }
-
-    /** A new object runs the text into this fault and has written these lines before. */
-    private static Session fails(String text, int fault, String lines) {
-        Session session = new Session();
-        CHECK.isTrue("fed: " + text, session.feed(text));
-        String answer = session.go(Session.PLENTY);
-        CHECK.same(text + " -> fault", session.run.fault(), fault);
-        CHECK.same(text + " -> answer", answer, Session.due(fault));
-        CHECK.same(text + " -> output", session.out(), linesOf(lines));
-        return session;
-    }
-
-    private static void faulty(String... texts) {
-        for (String text : texts) {
-            fails(text, 1, "");
-        }
-    }
-
-    private static String linesOf(String lines) {
-        return lines.isEmpty() ? "" : lines.replace(' ', '\n') + "\n";
-    }
-
-    private static void makes(String text, int steps) {
-        Session session = new Session();
-        CHECK.same(text + " -> steps", session.go(text, Session.PLENTY), String.valueOf(steps));
-        if (steps > 0) {
-            CHECK.same(text + " with less fuel", Session.fresh(text, steps - 1), Session.due(4));
-        }
     }
 
     private static void tokens() {

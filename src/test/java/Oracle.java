@@ -36,6 +36,7 @@ final class Oracle {
         private final int fault;
 
         Stop(int fault) {
+            super(null, null, false, false);
             this.fault = fault;
         }
     }
@@ -45,6 +46,7 @@ final class Oracle {
         private final transient BigDecimal value;
 
         Returned(BigDecimal value) {
+            super(null, null, false, false);
             this.value = value;
         }
     }
@@ -240,9 +242,12 @@ final class Oracle {
         require(relation != null);
         Value right = sum(down(depth));
         require(take(")"));
+        boolean ifLess = relation.matches("<=?|!=");
+        boolean ifSame = relation.matches("[<>=]=");
+        boolean ifMore = relation.matches(">=?|!=");
         return () -> {
             int order = left.get().compareTo(right.get());
-            return order == 0 ? relation.matches("[<>=]=") : relation.matches(order < 0 ? "<=?|!=" : ">=?|!=");
+            return order == 0 ? ifSame : order < 0 ? ifLess : ifMore;
         };
     }
 

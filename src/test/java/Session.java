@@ -57,6 +57,20 @@ final class Session {
         return run.variable(name - 'a') + "e" + run.decimals(name - 'a');
     }
 
+    /** What the latest run left: its fault, its steps and its output. */
+    String left() {
+        return "fault " + run.fault() + ", " + run.steps() + " steps, output " + out();
+    }
+
+    /** The scale and all variables. */
+    String numbers() {
+        StringBuilder numbers = new StringBuilder("scale " + run.scale());
+        for (char name = 'a'; name <= 'z'; name++) {
+            numbers.append(' ').append(variable(name));
+        }
+        return numbers.toString();
+    }
+
     static String due(int fault) {
         return switch (fault) {
             case 1 -> "IllegalArgumentException";

@@ -8,6 +8,7 @@ final class Texts {
     };
     private static final String[] RELATIONS = {"<", ">", "<=", ">=", "==", "!="};
     private static final String SPOILERS = "+-*/%^(){}=<>;!\n .,0129axfgAZ_\u00ff";
+    private static final String FUNCTIONS = "fgh";
 
     private final Random random;
 
@@ -26,11 +27,14 @@ final class Texts {
     /** A text of at most so many characters; what was longer is left whole pieces short. */
     String text(int limit) {
         StringBuilder text = new StringBuilder();
+        int defined = 0;
         int parts = 1 + below(9);
         for (int i = 0; i < parts; i++) {
-            String part = oneIn(4) ? definition() : statement(3, false);
+            boolean defines = i == 0 ? !oneIn(4) : oneIn(5);
+            String part = defines ? definition(defined) : statement(3, false);
             if (text.length() + part.length() + 2 <= limit) {
                 text.append(part).append(oneIn(9) ? ";\n" : ";");
+                defined += defines ? 1 : 0;
             }
         }
         return oneIn(8) ? spoilt(text, limit) : text.toString();
@@ -49,8 +53,10 @@ final class Texts {
         return text.toString();
     }
 
-    private String definition() {
-        return "define " + pick("fffgh") + "(" + name() + "){" + list(3, true) + "}";
+    /** Mostly of the next of the names, so that a name twice is rare. */
+    private String definition(int defined) {
+        String name = oneIn(20) ? pick(FUNCTIONS) : String.valueOf(FUNCTIONS.charAt(defined % FUNCTIONS.length()));
+        return "define " + name + "(" + name() + "){" + list(3, true) + "}";
     }
 
     private String list(int budget, boolean defining) {
