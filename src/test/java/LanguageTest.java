@@ -123,7 +123,8 @@ public final class LanguageTest extends Cases {
     private static void quotients() {
         gives("7/2;-7/2;7/-2;-7/-2;1/3;7.5/2.5;0/5", "3 -3 -3 3 0 3 0");
         gives("scale=2;7/2;-7/2;1/3;-2/3;1/0.03;0.01/3;-0.01/3;1.0000/8", "3.50 -3.50 0.33 -0.66 33.33 0.00 0.00 0.12");
-        gives("scale=4;1/0.0001;0.0001/1;1/16;99999/1;0.0001/99999;2/3", "10000.0000 0.0001 0.0625 99999.0000 0.0000 0.6666");
+        gives("scale=4;1/0.0001;0.0001/1;1/16;99999/1;0.0001/99999;2/3",
+            "10000.0000 0.0001 0.0625 99999.0000 0.0000 0.6666");
         fails("scale=4;100000/1", 3, "");
         fails("999999999/0.1", 3, "");
         gives("99999999/0.1;99999.9999/0.0001", "999999990 999999999");
@@ -278,7 +279,8 @@ public final class LanguageTest extends Cases {
         session = fails("define f(x){x=x+1;y=x/0};x=5;f(7)", 2, "");
         CHECK.same("the parameter stays", session.variable('x'), "8e0");
         CHECK.same("y", session.variable('y'), "0e0");
-        CHECK.same("the next run is whole", session.go("define f(n){if(n<2)return 1;return n*f(n-1)};f(4);x", 99), "10");
+        String whole = session.go("define f(n){if(n<2)return 1;return n*f(n-1)};f(4);x", 99);
+        CHECK.same("the next run is whole", whole, "10");
         CHECK.same("its output", session.out(), "24\n8\n");
         session = fails("define f(y){return g(y+1)};define g(z){return h(z+1)};f(1)", 6, "");
         CHECK.same("y is the argument", session.variable('y'), "1e0");

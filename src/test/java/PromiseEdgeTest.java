@@ -454,11 +454,15 @@ public final class PromiseEdgeTest extends Cases {
         }
         CHECK.same("call 511", run.variable(23), 508);
         CHECK.same("call 512", run.outLength(), 4);
-        Session faulty = new Session();
-        for (int call = 0; call < 510; call += 2) {
-            faulty.go(9);
-            faulty.run.feed('(');
+        Session session = new Session();
+        session.feed("define f(x){return 1+(2*f(x/0))};1+(2*(3+f(1)*4))");
+        int fed = 13;
+        for (int call = fed + 1; call <= 508; call++) {
+            CHECK.same("fault " + call, session.go(9), Session.due(2));
         }
-        CHECK.same("many faults", faulty.go(9), Session.due(1));
+        session.run.clear();
+        session.run.feed(Session.word("1+2;"));
+        CHECK.same("a run behind many faults", session.go(9), "1");
+        CHECK.same("its output", session.run.out(0), (int) '3');
     }
 }

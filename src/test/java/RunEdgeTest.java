@@ -103,6 +103,7 @@ public final class RunEdgeTest extends Cases {
         gives("define f(x){x=2.50};f(1.5);x=f(1)+1.0;x", "0 1.0");
         gives("define f(x){return 2.50};f(1);f(1)*2", "2.50 5.00");
         gives("define f(x){return 0.00};f(1)", "0.00");
+        gives("define f(x){};5-f(1);5-2*f(1);2^f(1);f(1)-5;if(5>f(1))7", "5 5 1 -5 7");
         CHECK.same("y=f(1)", gives("define f(x){};y=0.5;y=f(1)", "").variable('y'), "0e0");
     }
 
@@ -303,7 +304,8 @@ public final class RunEdgeTest extends Cases {
                 boolean fits = before + line.length() + 1 <= 300;
                 CHECK.same(line + " behind " + before + ": fault", session.run.fault(), fits ? 0 : 8);
                 CHECK.same(line + " behind " + before + ": length", session.run.outLength(), fits ? 300 : before);
-                CHECK.isTrue(line + " behind " + before + ": end", session.out().endsWith(fits ? "\n" + line + "\n" : "\n0\n"));
+                String end = fits ? "\n" + line + "\n" : "\n0\n";
+                CHECK.isTrue(line + " behind " + before + ": end", session.out().endsWith(end));
             }
         }
         Session session = new Session();
@@ -344,7 +346,8 @@ public final class RunEdgeTest extends Cases {
         String[] breaks = {"1/0", "999999999+1", "scale=5", "g(1)", "f(1)"};
         int[] faults = {2, 3, 5, 6, 7};
         for (int i = 0; i < breaks.length; i++) {
-            Session session = fails("define f(z){f(z)};x=1.5;scale=2;x;" + breaks[i] + ";x=2;scale=3;x", faults[i], "1.5");
+            String text = "define f(z){f(z)};x=1.5;scale=2;x;" + breaks[i] + ";x=2;scale=3;x";
+            Session session = fails(text, faults[i], "1.5");
             CHECK.same(breaks[i] + ": x", session.variable('x'), "15e1");
             CHECK.same(breaks[i] + ": scale", session.run.scale(), 2);
         }

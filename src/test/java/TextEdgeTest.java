@@ -26,6 +26,7 @@ public final class TextEdgeTest extends Cases {
         aNameIsOneLetter();
         wordsOfTwoLetters();
         wordsWithALetterWrong();
+        wordsInAnothersPlace();
         tokensAreLongestOnes();
         blanksBetweenTokens();
         programHasAnyNumberOfParts();
@@ -160,6 +161,19 @@ public final class TextEdgeTest extends Cases {
         faulty("If(0<1)7", "IF(0<1)7", "Scale=1", "i f(0<1)7", "sca le=1", "while1(0<1)7", "if;", "scale2");
     }
 
+    /** The same of one of the five words where another is due; if and while alone may stand for each other. */
+    private static void wordsInAnothersPlace() {
+        for (int i = 0; i < RESERVED.length; i++) {
+            String word = RESERVED[i];
+            for (int j = 0; j < RESERVED.length; j++) {
+                if (i != j && i + j != 1) {
+                    faulty(USES[i].replace(word, RESERVED[j]));
+                }
+            }
+            faulty("if(1 " + word + " 2)3", "1 " + word + " 2", "x " + word + " 1", word + " " + word);
+        }
+    }
+
     private static List<String> spoilt(String word) {
         List<String> others = new ArrayList<>();
         for (int at = 0; at <= word.length(); at++) {
@@ -183,6 +197,7 @@ public final class TextEdgeTest extends Cases {
         gives("if(1<=1)1;if(1>=1)2;if(1==1)3;if(1!=2)4;if(1<-1)5;if(1>-1)6;x=-1;x", "1 2 3 4 6 -1");
         faulty("if(1< =1)1", "if(1> =1)1", "if(1= =1)1", "if(1! =2)1", "if(1=<1)1", "if(1=>1)1", "if(1=1)1",
             "if(1!1)1", "if(1===1)1", "if(1<==1)1", "if(1<>1)1", "if(1<<1)1", "if(1!==1)1", "x==1", "x= =1");
+        faulty("<=", ">=", "==", "!=", "<==1", ">==1", "===1", "x<=1", "x>=1", "1+<=", "x=>=", "(==)");
         gives("define f(x){return1;return 2};f(0)", "1");
         faulty("define f(x){returnx}", "definef(x){}", "ifx", "x y", "xif(0<1)1", "1 2", "1 .5", "1. 5", "12 3.4");
     }
@@ -240,9 +255,9 @@ public final class TextEdgeTest extends Cases {
         sound("define f(x){1}", ";define f(x){};", "1;define f(x){};2");
         faulty("{define f(x){}}", "{1;define f(x){}}", "define f(x){define g(x){}}", "if(0<1)define f(x){}",
             "while(0<1)define f(x){}", "(define f(x){})", "x=define f(x){}");
-        faulty("define", "define f", "define f(", "define f(x", "define f(x)", "define f(x){", "define f()", "define f(){}",
-            "define (x){}", "define f x{}", "define f(x)x", "define f(x)\n{}", "define\nf(x){}", "define f(x y){}",
-            "define f(x){}{}", "define f((x)){}", "define f(-x){}", "define f(1){}", "define 1(x){}",
+        faulty("define", "define f", "define f(", "define f(x", "define f(x)", "define f(x){", "define f()",
+            "define f(){}", "define (x){}", "define f x{}", "define f(x)x", "define f(x)\n{}", "define\nf(x){}",
+            "define f(x y){}", "define f(x){}{}", "define f((x)){}", "define f(-x){}", "define f(1){}", "define 1(x){}",
             "define f(scale){}", "define scale(x){}", "define if(x){}", "define f(x);{}", "define f{}", "f(x){}");
     }
 
@@ -272,6 +287,9 @@ public final class TextEdgeTest extends Cases {
             "return 1;define f(x){}", "define f(x){return 1};{return 2}");
         faulty("define f(x){return}", "define f(x){return;}", "define f(x){return {1}}", "define f(x){return x=1}",
             "define f(x){return return 1}", "define f(x){return 1<2}", "define f(x){x=return 1}");
+        Session session = new Session();
+        session.go("define f(x){(", 9);
+        CHECK.same("nor behind a text that ended in one", session.go("return 1", 9), Session.due(1));
     }
 
     /** "C: E and one of < > <= >= == != and E." */
@@ -403,7 +421,8 @@ public final class TextEdgeTest extends Cases {
         for (String between : new String[] {"+", "-", "*", "/", "%", ";"}) {
             sound("((((((1))))))" + between + "((((((2))))))" + between + "------3" + between + "1^1^1^1^1^1^1");
         }
-        sound("{{{{{{}}}}}};{{{{{{}}}}}}", "{{{{{{1};1};1};1};1};1};{{{{{{1}}}}}}", "define f(x){{{{{{1}}}}}};{{{{{{1}}}}}}",
+        sound("{{{{{{}}}}}};{{{{{{}}}}}}", "{{{{{{1};1};1};1};1};1};{{{{{{1}}}}}}",
+            "define f(x){{{{{{1}}}}}};{{{{{{1}}}}}}",
             "if((((((0)))))<(((((1))))))x;if((((((0)))))<1)x", "if((((((0)))))<1){{{{{1}}}}}");
         faulty("((((((1))))))+(((((((2)))))))", "1;-------1", "{{{{{{}}}}}};{{{{{{{}}}}}}}");
     }

@@ -80,7 +80,10 @@ public final class ValueEdgeTest extends Cases {
         gives("scale=4;99999/1;-99999/1;99999.9999/1", "99999.0000 -99999.0000 99999.9999");
         fails("scale=4;100000/1", 3, "");
         fails("scale=4;-100000/1", 3, "");
-        gives("scale=1;99999999/1", "99999999.0");
+        gives("scale=1;99999999/1;9999.9999/0.0001", "99999999.0 99999999.0");
+        gives("scale=2;999.9999/0.0001;scale=3;99.9999/0.0001;scale=4;9.9999/0.0001",
+            "9999999.00 999999.000 99999.0000");
+        fails("scale=4;10/0.0001", 3, "");
         fails("scale=1;100000000/1", 3, "");
     }
 
@@ -92,7 +95,8 @@ public final class ValueEdgeTest extends Cases {
 
     /** "also one between the factors of ^". */
     private static void numbersOfPowers() {
-        gives("999999999^1;31622^2;999^3;(-999)^3;10^8;2^29", "999999999 999950884 997002999 -997002999 100000000 536870912");
+        gives("999999999^1;31622^2;999^3;(-999)^3;10^8;2^29",
+            "999999999 999950884 997002999 -997002999 100000000 536870912");
         fails("31623^2", 3, "");
         fails("1000^3", 3, "");
         fails("(-1000)^3", 3, "");
@@ -179,7 +183,11 @@ public final class ValueEdgeTest extends Cases {
 
     /** "the whole part's digits (at least one)". */
     private static void writingTheWholePart() {
-        gives("0;9;10;99;100;12345678;99999999;100000000", "0 9 10 99 100 12345678 99999999 100000000");
+        for (int digits = 1; digits <= 9; digits++) {
+            String least = "1" + "0".repeat(digits - 1);
+            String most = "9".repeat(digits);
+            gives(least + ";" + most + ";-" + least + ";-" + most, least + " " + most + " -" + least + " -" + most);
+        }
         gives("0.9;9.9;10.0;0.0009;-0.5;00.5;007", "0.9 9.9 10.0 0.0009 -0.5 0.5 7");
         gives("99999.9999;-99999.9999;10000.0001;9999.9999", "99999.9999 -99999.9999 10000.0001 9999.9999");
     }
@@ -226,7 +234,8 @@ public final class ValueEdgeTest extends Cases {
             for (int t = 0; t <= 4; t++) {
                 String a = numeral("2", s);
                 String b = numeral("1", t);
-                gives(a + "+" + b + ";" + a + "-" + b, numeral("3", Math.max(s, t)) + " " + numeral("1", Math.max(s, t)));
+                int greater = Math.max(s, t);
+                gives(a + "+" + b + ";" + a + "-" + b, numeral("3", greater) + " " + numeral("1", greater));
             }
         }
         gives("0.0001+0.1;0.1-0.0001;1-0.0001;scale=1;0.05+0.05", "0.1001 0.0999 0.9999 0.10");
@@ -293,7 +302,8 @@ public final class ValueEdgeTest extends Cases {
     /** "b's value must be whole", else fault 5; decimals of 0 are. */
     private static void exponentsAreWhole() {
         gives("2^3;2^3.0;2^3.0000;2^-0.00;2^(1.5+1.5);1^99.0000", "8 8 8 1 8 1");
-        for (String exponent : new String[] {"0.5", "0.0001", "-0.0001", "2.9999", "3.0001", "98.9999", "-1.5", "0.9"}) {
+        String[] broken = {"0.5", "0.0001", "-0.0001", "2.9999", "3.0001", "98.9999", "-1.5", "0.9"};
+        for (String exponent : broken) {
             fails("1^" + exponent, 5, "");
             fails("0^" + exponent, 5, "");
         }
