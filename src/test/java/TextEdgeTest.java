@@ -62,7 +62,8 @@ public final class TextEdgeTest extends Cases {
         gives(" ".repeat(199) + "7", "7");
         gives("7" + "\n".repeat(199), "7");
         faulty("x".repeat(200), "1".repeat(200), "(".repeat(200), "-".repeat(200), "{".repeat(200),
-            "=".repeat(200), ";".repeat(199) + ")", "f(".repeat(100), "1^".repeat(100), "if(".repeat(66));
+            "=".repeat(200), ";".repeat(199) + ")", "f(".repeat(100), "1^".repeat(100), "if(".repeat(66),
+            "1+".repeat(100), "x=".repeat(100), ";".repeat(199) + "-", ";".repeat(198) + "x=", ";".repeat(198) + "f(");
     }
 
     /** "any other character is a fault": each code there is, alone in the text. */
