@@ -79,6 +79,11 @@ final class Oracle {
         }
     }
 
+    void reset() {
+        variables.clear();
+        scale = 0;
+    }
+
     BigDecimal variable(char name) {
         return variables.getOrDefault(name, BigDecimal.ZERO);
     }
